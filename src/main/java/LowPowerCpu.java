@@ -412,7 +412,11 @@ public final class LowPowerCpu {
 
     private void push(int value, boolean bytes) {
         addToRegister(SP, -2);
-        put(registers[SP], value, bytes);
+        if (bytes) {
+            memory.writeByte(registers[SP], value);
+        } else {
+            memory.writeWord(registers[SP], value);
+        }
     }
 
     private int pop() {

@@ -1,5 +1,7 @@
 /** Promises 1 to 4, 6 to 8, 10 and 11 as calls: ordinary arguments, edges and wrong ones. */
 public final class CallsTest {
+    // No object is asked beyond the 512 calls that the document promises.
+    private static final int BLOCK = 128;
     private static final int[] WRONG_ADDRESSES = {-1, -2, 65536, 65537, Integer.MAX_VALUE, Integer.MIN_VALUE};
     private static final int[] WRONG_BYTES = {-1, 256, 257, Integer.MAX_VALUE, Integer.MIN_VALUE};
 
@@ -18,8 +20,10 @@ public final class CallsTest {
     private static void newObject() {
         LowPowerCpu cpu = new LowPowerCpu();
         for (int address = 0; address < 65536; address++) {
+            cpu = address % BLOCK == 0 ? new LowPowerCpu() : cpu;
             Bench.due("new: peek(" + address + ")", cpu.peek(address), 0);
         }
+        cpu = new LowPowerCpu();
         allClear("new", cpu);
         Bench.due("new: reg(0)", cpu.reg(0), 0);
         Bench.due("new: step", cpu.step(), 2);
@@ -64,31 +68,45 @@ public final class CallsTest {
     }
 
     private static void poke() {
+        for (int first = 0; first < 65536; first += BLOCK) {
+            pokeBlock(first);
+        }
         LowPowerCpu cpu = new LowPowerCpu();
-        for (int address = 0; address < 65536; address += 1) {
-            Bench.due("poke(" + address + ")", cpu.poke(address, (address * 7 + (address >> 8)) & 255), true);
-        }
-        for (int address = 0; address < 65536; address++) {
-            boolean one = address >= 0x130 && address < 0x138;
-            int last = one ? 0x136 + (address & 1) : address;
-            Bench.due("poked byte " + address, cpu.peek(address), (last * 7 + (last >> 8)) & 255);
-        }
-        Bench.due("poke works nothing: mode", cpu.mode(), 0);
+        cpu.poke(0, 11);
+        cpu.poke(65535, 22);
+        cpu.poke(600, 33);
         for (int address : WRONG_ADDRESSES) {
             Bench.due("poke(" + address + ", 1)", cpu.poke(address, 1), false);
         }
-        int before = cpu.peek(600);
         for (int b : WRONG_BYTES) {
             Bench.due("poke(600, " + b + ")", cpu.poke(600, b), false);
         }
-        Bench.due("a wrong byte changes nothing", cpu.peek(600), before);
-        Bench.due("a wrong address changes nothing at 65535", cpu.peek(65535), (65535 * 7 + 255) & 255);
-        Bench.due("a wrong address changes nothing at 0", cpu.peek(0), 0);
+        Bench.due("a wrong byte changes nothing", cpu.peek(600), 33);
+        Bench.due("a wrong byte changes nothing beside", cpu.peek(601), 0);
+        Bench.due("a wrong address changes nothing at 65535", cpu.peek(65535), 22);
+        Bench.due("a wrong address changes nothing at 0", cpu.peek(0), 11);
+        Bench.due("a wrong address changes nothing at 1", cpu.peek(1), 0);
         Bench.due("poke(65535, 255)", cpu.poke(65535, 255), true);
         Bench.due("peek(65535)", cpu.peek(65535), 255);
         Bench.due("poke(0, 0)", cpu.poke(0, 0), true);
         Bench.due("peek(0)", cpu.peek(0), 0);
         Bench.due("no step, no cycles", cpu.cyclesOf(), 0);
+    }
+
+    private static int byteFor(int address) {
+        return (address * 7 + (address >> 8)) & 255;
+    }
+
+    private static void pokeBlock(int first) {
+        LowPowerCpu cpu = new LowPowerCpu();
+        for (int address = first; address < first + BLOCK; address++) {
+            Bench.due("poke(" + address + ")", cpu.poke(address, byteFor(address)), true);
+        }
+        for (int address = first; address < first + BLOCK; address++) {
+            boolean one = address >= 0x130 && address < 0x138;
+            Bench.due("poked byte " + address, cpu.peek(address), byteFor(one ? 0x136 + (address & 1) : address));
+        }
+        Bench.due("poke works nothing: mode", cpu.mode(), 0);
     }
 
     private static void peek() {

@@ -1,6 +1,9 @@
 import java.util.Random;
 
-/** Runs of random calls on programs of random words: the class and PlainModel answer alike. */
+/**
+ * Runs of random calls on programs of random words: the class and PlainModel answer alike.
+ * The looking between the calls goes beyond the document's 512: the class counts no calls.
+ */
 public final class ModelTest {
     private static final int RUNS = 2500;
     private static final int[] TELLING = {0, 1, 2, 0x7F, 0x80, 0xFF, 0x7FFF, 0x8000, 0xFFFF, 0x9999, 0x0130, 0x0138, 0x013A};
@@ -51,7 +54,7 @@ public final class ModelTest {
             at += 4;
         }
         for (int i = 0; i < 30; i++) {
-            pokeWord(at, instruction(kind));
+            pokeWord(at, instruction());
             at += 2;
         }
         cpu.init();
@@ -62,7 +65,7 @@ public final class ModelTest {
         return random.nextInt(3) == 0 ? TELLING[random.nextInt(TELLING.length)] : random.nextInt(65536);
     }
 
-    private static int instruction(int kind) {
+    private static int instruction() {
         switch (random.nextInt(10)) {
             case 0: return word();
             case 1: return 0x2000 + random.nextInt(8) * 0x400 + (random.nextInt(16) - 4 & 0x3FF);
@@ -90,7 +93,7 @@ public final class ModelTest {
             int told = model.step();
             Bench.due(name + ": step", cpu.step(), told);
             if (told != 0) {
-                pokeWord(model.r[0], instruction(0));
+                pokeWord(model.r[0], instruction());
             }
         }
         sameState();

@@ -127,6 +127,8 @@ public final class OnePartTest {
         LowPowerCpu cpu = new LowPowerCpu();
         for (int word = 0; word < 65536; word++) {
             boolean due = isUnassigned(word);
+            // No object is asked beyond the 512 calls that the document promises.
+            cpu = word % 32 == 0 ? new LowPowerCpu() : cpu;
             cpu.poke(0xFFFE, 0);
             cpu.poke(0xFFFF, 0x10);
             cpu.init();
