@@ -10,8 +10,9 @@ final class Bench {
 
     private static int wrong = 0;
     private static int asked = 0;
+    private static String about = "";
 
-    final LowPowerCpu cpu = new LowPowerCpu();
+    final Computer cpu = new Computer();
     final String name;
     private final java.util.ArrayList<int[]> settings = new java.util.ArrayList<>();
     private int cyclesBefore;
@@ -20,12 +21,29 @@ final class Bench {
         this.name = name;
     }
 
+    /** What the wrong answers from here on are told to be about. */
+    static void about(String name) {
+        about = name + ": ";
+    }
+
+    static int askedSoFar() {
+        return asked;
+    }
+
     static void due(String what, long got, long want) {
         asked++;
         if (got != want) {
             wrong++;
-            System.out.println(what + " answered " + got + " (0x" + Long.toHexString(got) + "), due is "
+            System.out.println(about + what + " answered " + got + " (0x" + Long.toHexString(got) + "), due is "
                     + want + " (0x" + Long.toHexString(want) + ")");
+        }
+    }
+
+    static void due(String what, String got, String want) {
+        asked++;
+        if (!got.equals(want)) {
+            wrong++;
+            System.out.println(about + what + " is " + got + ", due is " + want);
         }
     }
 

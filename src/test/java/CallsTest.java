@@ -18,23 +18,23 @@ public final class CallsTest {
     }
 
     private static void newObject() {
-        LowPowerCpu cpu = new LowPowerCpu();
+        Computer cpu = new Computer();
         for (int address = 0; address < 65536; address++) {
-            cpu = address % BLOCK == 0 ? new LowPowerCpu() : cpu;
+            cpu = address % BLOCK == 0 ? new Computer() : cpu;
             Bench.due("new: peek(" + address + ")", cpu.peek(address), 0);
         }
-        cpu = new LowPowerCpu();
+        cpu = new Computer();
         allClear("new", cpu);
         Bench.due("new: reg(0)", cpu.reg(0), 0);
         Bench.due("new: step", cpu.step(), 2);
-        LowPowerCpu other = new LowPowerCpu();
+        Computer other = new Computer();
         cpu.poke(7, 7);
         cpu.raise(3);
         Bench.due("another object's memory", other.peek(7), 0);
         Bench.due("another object's lines", other.pending(), 0);
     }
 
-    private static void allClear(String when, LowPowerCpu cpu) {
+    private static void allClear(String when, Computer cpu) {
         for (int i = 1; i < 16; i++) {
             Bench.due(when + ": reg(" + i + ")", cpu.reg(i), 0);
         }
@@ -54,7 +54,7 @@ public final class CallsTest {
         bench.set(Bench.SP, 0x500).set(Bench.SR, 0xFF00);
         bench.start(Bench.two(Bench.MOV, 0, 4, 1, 2), 0x0136, Bench.two(Bench.MOV, 0, 4, 1, 2), 0x0138);
         bench.step(0).step(0);
-        LowPowerCpu cpu = bench.cpu;
+        Computer cpu = bench.cpu;
         cpu.raise(13);
         cpu.poke(0x13E, 5);
         cpu.poke(0x200, 0x77);
@@ -71,7 +71,7 @@ public final class CallsTest {
         for (int first = 0; first < 65536; first += BLOCK) {
             pokeBlock(first);
         }
-        LowPowerCpu cpu = new LowPowerCpu();
+        Computer cpu = new Computer();
         cpu.poke(0, 11);
         cpu.poke(65535, 22);
         cpu.poke(600, 33);
@@ -98,7 +98,7 @@ public final class CallsTest {
     }
 
     private static void pokeBlock(int first) {
-        LowPowerCpu cpu = new LowPowerCpu();
+        Computer cpu = new Computer();
         for (int address = first; address < first + BLOCK; address++) {
             Bench.due("poke(" + address + ")", cpu.poke(address, byteFor(address)), true);
         }
@@ -110,7 +110,7 @@ public final class CallsTest {
     }
 
     private static void peek() {
-        LowPowerCpu cpu = new LowPowerCpu();
+        Computer cpu = new Computer();
         cpu.poke(0, 1);
         cpu.poke(65535, 200);
         for (int address : WRONG_ADDRESSES) {
@@ -122,7 +122,7 @@ public final class CallsTest {
 
     private static void run() {
         int jumpToItself = 0x3FFF;
-        LowPowerCpu endless = new Bench("run").start(jumpToItself).cpu;
+        Computer endless = new Bench("run").start(jumpToItself).cpu;
         for (int n : new int[] {-1, 2001, Integer.MAX_VALUE, Integer.MIN_VALUE}) {
             Bench.due("run(" + n + ")", endless.run(n), LowPowerCpu.NONE);
         }
@@ -134,7 +134,7 @@ public final class CallsTest {
         Bench.due("run(2000)", endless.run(2000), 0);
         Bench.due("run(2000) is 2000 steps", endless.cyclesOf(), 4002);
 
-        LowPowerCpu stopping = new Bench("run to 2").start(0x4315, 0x5315, 0x5315, 0x0000).cpu;
+        Computer stopping = new Bench("run to 2").start(0x4315, 0x5315, 0x5315, 0x0000).cpu;
         Bench.due("run(2) ends ahead of the 2", stopping.run(2), 0);
         Bench.due("run(2): R5", stopping.reg(5), 2);
         Bench.due("run(9) ends at the 2", stopping.run(9), 2);
@@ -143,13 +143,13 @@ public final class CallsTest {
         Bench.due("run(0) at a 2", stopping.run(0), 0);
         Bench.due("run(1) at a 2", stopping.run(1), 2);
 
-        LowPowerCpu sleeping = new Bench("run to CPUOFF").start(0x4315, 0xD032, 0x0010, 0x5315).cpu;
+        Computer sleeping = new Bench("run to CPUOFF").start(0x4315, 0xD032, 0x0010, 0x5315).cpu;
         Bench.due("run(2) up to CPUOFF", sleeping.run(2), 0);
         Bench.due("run(50) with CPUOFF", sleeping.run(50), 1);
         Bench.due("run(50): R5", sleeping.reg(5), 1);
         Bench.due("run(0) with CPUOFF", sleeping.run(0), 0);
 
-        LowPowerCpu woken = new Bench("run, interrupted").set(Bench.SP, 0x400).set(Bench.SR, Bench.GIE | Bench.OFF)
+        Computer woken = new Bench("run, interrupted").set(Bench.SP, 0x400).set(Bench.SR, Bench.GIE | Bench.OFF)
                 .words(0xFFE4, 0x2000).words(0x2000, 0x4315, 0x0000).start().cpu;
         woken.raise(2);
         Bench.due("an interrupt wakes it", woken.run(10), 2);
@@ -173,7 +173,7 @@ public final class CallsTest {
     }
 
     private static void raise() {
-        LowPowerCpu cpu = new LowPowerCpu();
+        Computer cpu = new Computer();
         int due = 0;
         for (int line = 13; line >= 0; line--) {
             Bench.due("raise(" + line + ")", cpu.raise(line), true);

@@ -90,7 +90,7 @@ public final class MultiplierTest {
     }
 
     private static void pokes() {
-        LowPowerCpu cpu = new LowPowerCpu();
+        Computer cpu = new Computer();
         Bench.due("poke", cpu.poke(0x135, 0x12), true);
         Bench.due("ONE", cpu.peek(0x131), 0x12);
         Bench.due("ONE, lower", cpu.peek(0x130), 0);

@@ -124,11 +124,11 @@ public final class OnePartTest {
     }
 
     private static void unassigned() {
-        LowPowerCpu cpu = new LowPowerCpu();
+        Computer cpu = new Computer();
         for (int word = 0; word < 65536; word++) {
             boolean due = isUnassigned(word);
             // No object is asked beyond the 512 calls that the document promises.
-            cpu = word % 32 == 0 ? new LowPowerCpu() : cpu;
+            cpu = word % 32 == 0 ? new Computer() : cpu;
             cpu.poke(0xFFFE, 0);
             cpu.poke(0xFFFF, 0x10);
             cpu.init();
