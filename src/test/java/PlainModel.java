@@ -6,6 +6,7 @@ final class PlainModel {
     final int[] bytes = new int[65536];
     final int[] r = new int[16];
     final boolean[] lines = new boolean[14];
+    final java.util.BitSet written = new java.util.BitSet();
     int one, two, low, high, extra, mode;
     long cycles;
 
@@ -31,7 +32,7 @@ final class PlainModel {
 
     void poke(int a, int b) {
         if (a < 0x130 || a > 0x13F) {
-            bytes[a] = b;
+            setByte(a, b);
             return;
         }
         int even = a / 2 * 2;
@@ -66,11 +67,16 @@ final class PlainModel {
             if (ofBytes && a % 2 == 1) return;
             storeMultiplier(a / 2 * 2, value);
         } else if (ofBytes) {
-            bytes[a] = value;
+            setByte(a, value);
         } else {
-            bytes[a / 2 * 2] = value % 256;
-            bytes[a / 2 * 2 + 1] = value / 256;
+            setByte(a / 2 * 2, value % 256);
+            setByte(a / 2 * 2 + 1, value / 256);
         }
+    }
+
+    private void setByte(int a, int value) {
+        bytes[a] = value;
+        written.set(a);
     }
 
     private void storeMultiplier(int a, int value) {
