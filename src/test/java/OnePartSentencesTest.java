@@ -104,30 +104,39 @@ public final class OnePartSentencesTest extends Sentences {
         onePart(RRA, true, V | Z, 0x0080, 0x00C0, N);
     }
 
-    @Says(where = "Part II, ONE PART", value = "4 PUSH: SP is 2 less, then x is written at SP (a byte alone at SP itself).")
+    @Says(where = "Part II, ONE PART", value = "4 PUSH: SP is 2 less, then x is written at SP")
     static void push() {
         scene().set(SP, 0x400).set(4, 0x1234).set(SR, 0x0107).word(0x3FE, 0xABCD).code(one(PUSH, 0, 4))
                 .step(0, "PC=1002 SP=3fe [3fe]=1234 cycles+3");
+        scene().set(SP, 0x401).set(4, 0x1234).word(0x3FE, 0xABCD).word(0x400, 0x5566).code(one(PUSH, 0, 4))
+                .step(0, "PC=1002 SP=3ff [3fe]=1234 cycles+3");
+        scene().set(SP, 0x0002).set(4, 0x1234).code(one(PUSH, 0, 4)).step(0, "PC=1002 SP=0 [0]=1234 cycles+3");
+        scene().set(SP, 0x0000).set(4, 0x1234).code(one(PUSH, 0, 4)).step(0, "PC=1002 SP=fffe [fffe]=1234 cycles+3");
+        scene().set(SP, 0x400).code(one(PUSH, 0, PC)).step(0, "PC=1002 SP=3fe [3fe]=1002 cycles+3");
+        scene().set(SP, 0x400).set(SR, 0x0107).code(one(PUSH, 0, SR)).step(0, "PC=1002 SP=3fe [3fe]=107 cycles+3");
+        scene().set(SP, 0x400).code(one(PUSH, 3, 3)).step(0, "PC=1002 SP=3fe [3fe]=ffff cycles+3");
+        scene().set(SP, 0x400).word(0x3FE, 0xABCD).code(one(PUSH, 0, 3)).step(0, "PC=1002 SP=3fe [3fe]=0 cycles+3");
+        scene().set(SP, 0x400).code(one(PUSH, 3, PC), 0xBEEF).step(0, "PC=1004 SP=3fe [3fe]=beef cycles+4");
+    }
+
+    @Says(where = "Part II, ONE PART", value = "(a byte alone at SP itself)")
+    static void pushOfAByte() {
         scene().set(SP, 0x400).set(4, 0x1234).word(0x3FE, 0xABCD).code(b(one(PUSH, 0, 4)))
                 .step(0, "PC=1002 SP=3fe [3fe]=ab34 cycles+3");
         scene().set(SP, 0x401).set(4, 0x1234).word(0x3FE, 0xABCD).word(0x400, 0x5566).code(b(one(PUSH, 0, 4)))
                 .step(0, "PC=1002 SP=3ff [3fe]=34cd cycles+3");
-        scene().set(SP, 0x401).set(4, 0x1234).word(0x3FE, 0xABCD).word(0x400, 0x5566).code(one(PUSH, 0, 4))
-                .step(0, "PC=1002 SP=3ff [3fe]=1234 cycles+3");
-        scene().set(SP, 0x0001).set(4, 0x1234).word(0xFFFE, 0xABCD).code(b(one(PUSH, 0, 4)))
+        scene().set(SP, 0x0000).set(4, 0x1234).word(0xFFFE, 0xABCD).code(b(one(PUSH, 0, 4)))
+                .step(0, "PC=1002 SP=fffe [fffe]=ab34 cycles+3");
+        scene().set(SP, 0x0001).set(4, 0x1234).word(0xFFFE, 0xABCD).word(0, 0x5566).code(b(one(PUSH, 0, 4)))
                 .step(0, "PC=1002 SP=ffff [fffe]=34cd cycles+3");
-        scene().set(SP, 0x400).code(one(PUSH, 0, PC)).step(0, "PC=1002 SP=3fe [3fe]=1002 cycles+3");
-        scene().set(SP, 0x400).set(SR, 0x0107).code(one(PUSH, 0, SR)).step(0, "PC=1002 SP=3fe [3fe]=107 cycles+3");
-        scene().set(SP, 0x400).code(one(PUSH, 3, 3)).step(0, "PC=1002 SP=3fe [3fe]=ffff cycles+3");
-        scene().set(SP, 0x400).code(b(one(PUSH, 3, 3))).step(0, "PC=1002 SP=3fe [3fe]=ff cycles+3");
-        scene().set(SP, 0x400).word(0x3FE, 0xABCD).code(one(PUSH, 0, 3)).step(0, "PC=1002 SP=3fe [3fe]=0 cycles+3");
-        scene().set(SP, 0x400).code(one(PUSH, 3, PC), 0xBEEF).step(0, "PC=1004 SP=3fe [3fe]=beef cycles+4");
-        scene().set(SP, 0x400).code(b(one(PUSH, 3, PC)), 0xBEEF).step(0, "PC=1004 SP=3fe [3fe]=ef cycles+4");
+        scene().set(SP, 0x400).word(0x3FE, 0xABCD).code(b(one(PUSH, 3, 3))).step(0, "PC=1002 SP=3fe [3fe]=abff cycles+3");
+        scene().set(SP, 0x400).word(0x3FE, 0xABCD).code(b(one(PUSH, 3, PC)), 0xBEEF)
+                .step(0, "PC=1004 SP=3fe [3fe]=abef cycles+4");
         scene().set(SP, 0x400).set(4, 0x2001).word(0x2000, 0xABCD).code(b(one(PUSH, 3, 4)))
                 .step(0, "PC=1002 SP=3fe R4=2002 [3fe]=ab cycles+5");
     }
 
-    @Says(where = "Part II, ONE PART", value = "4 PUSH: SP is 2 less, then x is written at SP (a byte alone at SP itself).")
+    @Says(where = "Part II, ONE PART", value = "4 PUSH: SP is 2 less, then x is written at SP")
     static void pushOfTheStackItself() {
         scene().set(SP, 0x400).code(one(PUSH, 0, SP)).step(0, "PC=1002 SP=3fe [3fe]=400 cycles+3");
         scene().set(SP, 0x400).word(0x400, 0x1234).code(one(PUSH, 2, SP)).step(0, "PC=1002 SP=3fe [3fe]=1234 cycles+4");
@@ -176,6 +185,10 @@ public final class OnePartSentencesTest extends Sentences {
             scene().code(0x3C00 | row[0]).step(0, "PC=" + hex(row[1]) + " cycles+2");
         }
         scene().code(0x3FFF).step(0, "cycles+2");
+        for (int condition = 0; condition < 8; condition++) {
+            scene().code(0x2000 | condition << 10).step(0, "PC=1002 cycles+2");
+            scene().set(SR, FLAGS).code(0x2000 | condition << 10).step(0, "PC=1002 cycles+2");
+        }
         scene().at(0xFFFE).code(0x3DFF).step(0, "PC=3fe cycles+2");
         scene().at(0x0000).code(0x3E00).step(0, "PC=fc02 cycles+2");
     }
@@ -193,21 +206,69 @@ public final class OnePartSentencesTest extends Sentences {
         }
     }
 
-    @Says(where = "Part II", value = "All other words are UNASSIGNED (bytes of SWPB, SXT, CALL; 0x1301 to 0x13FF; 0x1400 to 0x1FFF;"
-            + " below 0x1000).")
-    static void unassigned() {
-        int[] unassigned = {0x0000, 0x0001, 0x0800, 0x0FFF, 0x10C0, 0x10C5, 0x10FF, 0x11C0, 0x11C5, 0x11FF, 0x12C0, 0x12C5,
-            0x12FF, 0x1301, 0x1310, 0x1340, 0x1380, 0x13C0, 0x13FF, 0x1400, 0x1500, 0x1800, 0x1FFF};
-        for (int word : unassigned) {
-            scene().set(SP, 0x400).set(5, 0x2000).set(SR, 0x0107).word(0x2000, 0x1234).code(word, 0x2000).step(2, "nothing");
+    /** Of the first and the last word everything is looked at, of those between the answer, PC and the cycles. */
+    private static void unassigned(int first, int last) {
+        for (int word : new int[] {first, last}) {
+            scene().set(SP, 0x400).set(4, 0x2000).set(15, 0x2000).set(SR, 0x0107).word(0x2000, 0x1234).code(word, 0x2000)
+                    .step(2, "nothing").step(2, "nothing");
         }
-        int[] assigned = {0x1000, 0x1040, 0x107F, 0x1080, 0x10BF, 0x1100, 0x1140, 0x117F, 0x1180, 0x11BF, 0x1200, 0x1240,
-            0x127F, 0x1280, 0x12BF, 0x1300, 0x2000, 0x3FFF, 0x4000, 0xFFFF};
-        for (int word : assigned) {
-            Computer c = scene().set(SP, 0x400).code(word, 0x2000).build();
-            int before = c.cyclesOf();
-            due("step at 0x" + hex(word), c.step(), 0);
-            due("it costs cycles", c.cyclesOf() > before, true);
+        Computer c = null;
+        for (int word = first; word <= last; word++) {
+            if (c == null || c.calls() > 400) {
+                c = scene().set(SP, 0x400).set(SR, 0x0107).build();
+            }
+            c.word(CODE, word);
+            due("step at 0x" + hex(word), c.step(), 2);
+            due("PC", c.reg(PC), CODE);
+            due("cycles", c.cyclesOf(), 4);
         }
+    }
+
+    @Says(where = "Part II, UNASSIGNED", value = "(bytes of SWPB, SXT, CALL;")
+    static void unassignedBytes() {
+        unassigned(0x10C0, 0x10FF);
+        unassigned(0x11C0, 0x11FF);
+        unassigned(0x12C0, 0x12FF);
+    }
+
+    @Says(where = "Part II, UNASSIGNED", value = "0x1301 to 0x13FF;")
+    static void unassignedByReti() {
+        unassigned(0x1301, 0x13FF);
+    }
+
+    @Says(where = "Part II, UNASSIGNED", value = "0x1400 to 0x1FFF;")
+    static void unassignedAboveReti() {
+        unassigned(0x1400, 0x1FFF);
+    }
+
+    @Says(where = "Part II, UNASSIGNED", value = "below 0x1000).")
+    static void unassignedBelow() {
+        unassigned(0x0000, 0x0FFF);
+    }
+
+    private static void assigned(int word, int status, String effect) {
+        scene().set(SP, 0x400).set(15, 0x2000).set(SR, status).word(0x400, 0x0107).word(0x402, 0x3000).word(0x2000, 0x1203)
+                .word(0x2010, 0x0307).code(word, 0x000F).step(0, effect);
+    }
+
+    @Says(where = "Part II, UNASSIGNED", value = "All other words are UNASSIGNED")
+    static void noneButTheOthers() {
+        assigned(0x1000, 0, "PC=800 cycles+1");
+        assigned(0x107F, C, "PC=1002 SR=5 R15=2001 [2000]=1281 cycles+3");
+        assigned(0x1080, 0, "PC=210 cycles+1");
+        assigned(0x10BF, 0, "PC=1002 R15=2002 [2000]=312 cycles+3");
+        assigned(0x1100, 0, "PC=800 cycles+1");
+        assigned(0x117F, 0, "PC=1002 SR=1 R15=2001 [2000]=1201 cycles+3");
+        assigned(0x1180, 0, "PC=2 SR=1 cycles+1");
+        assigned(0x11BF, 0, "PC=1002 SR=1 R15=2002 [2000]=3 cycles+3");
+        assigned(0x1200, 0, "PC=1002 SP=3fe [3fe]=1002 cycles+3");
+        assigned(0x127F, 0, "PC=1002 SP=3fe R15=2001 [3fe]=3 cycles+5");
+        assigned(0x1280, 0, "PC=1002 SP=3fe [3fe]=1002 cycles+4");
+        assigned(0x12BF, 0, "PC=1202 SP=3fe R15=2002 [3fe]=1002 cycles+5");
+        assigned(0x1300, 0, "PC=3000 SP=404 SR=107 cycles+5");
+        assigned(0x2000, 0, "PC=1002 cycles+2");
+        assigned(0x3FFF, 0, "cycles+2");
+        assigned(0x4000, 0, "PC=1002 cycles+2");
+        assigned(0xFFFF, 0, "PC=1004 SR=1 R15=2001 [2010]=303 cycles+5");
     }
 }

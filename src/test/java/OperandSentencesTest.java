@@ -97,7 +97,7 @@ public final class OperandSentencesTest extends Sentences {
         scene().code(b(two(MOV, 3, 3, 0, 5))).step(0, "PC=1002 R5=ff cycles+1");
     }
 
-    @Says(where = "Part II", value = "what is at register s, which then is 1 more of bytes, 2 more of words, of PC and SP 2 always.")
+    @Says(where = "Part II", value = "what is at register s, which then is 1 more of bytes, 2 more of words")
     static void stepOn() {
         for (int s = 4; s < 15; s++) {
             String name = " R" + s;
@@ -109,12 +109,19 @@ public final class OperandSentencesTest extends Sentences {
                     .step(0, "PC=1002" + name + "=2002 R15=ab cycles+2");
         }
         scene().set(15, 0x2000).word(0x2000, 0xABCD).code(b(two(MOV, 3, 15, 0, 5))).step(0, "PC=1002 R5=cd R15=2001 cycles+2");
+        scene().set(15, 0x2001).word(0x2000, 0xABCD).code(two(MOV, 3, 15, 0, 5)).step(0, "PC=1002 R5=abcd R15=2003 cycles+2");
+        scene().set(4, 0x2000).word(0x2000, 0x8042).code(b(one(RRA, 3, 4))).step(0, "PC=1002 R4=2001 [2000]=8021 cycles+3");
+    }
+
+    @Says(where = "Part II", value = "of PC and SP 2 always.")
+    static void stepOnOfPcAndSp() {
         scene().set(SP, 0x2000).word(0x2000, 0xABCD).code(two(MOV, 3, SP, 0, 5)).step(0, "PC=1002 SP=2002 R5=abcd cycles+2");
         scene().set(SP, 0x2000).word(0x2000, 0xABCD).code(b(two(MOV, 3, SP, 0, 5))).step(0, "PC=1002 SP=2002 R5=cd cycles+2");
         scene().set(SP, 0x2001).word(0x2000, 0xABCD).code(b(two(MOV, 3, SP, 0, 5))).step(0, "PC=1002 SP=2003 R5=ab cycles+2");
         scene().code(two(MOV, 3, PC, 0, 5), 0xABCD).step(0, "PC=1004 R5=abcd cycles+2");
         scene().code(b(two(MOV, 3, PC, 0, 5)), 0xABCD).step(0, "PC=1004 R5=cd cycles+2");
-        scene().set(4, 0x2000).word(0x2000, 0x8042).code(b(one(RRA, 3, 4))).step(0, "PC=1002 R4=2001 [2000]=8021 cycles+3");
+        scene().code(b(two(ADD, 3, PC, 1, 2)), 0xABCD, 0x2001).step(0, "PC=1006 SR=4 [2000]=cd00 cycles+5");
+        scene().set(SP, 0x400).code(b(one(PUSH, 3, PC)), 0xABCD).step(0, "PC=1004 SP=3fe [3fe]=cd cycles+4");
         scene().set(SP, 0x2000).word(0x2000, 0x8042).code(b(one(RRA, 3, SP))).step(0, "PC=1002 SP=2002 [2000]=8021 cycles+3");
     }
 
